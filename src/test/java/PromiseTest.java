@@ -287,6 +287,11 @@ public final class PromiseTest {
     c.due("read(1), room for two", x.read(1), 2);
     infos(x, 3, 2, 2, 2, 0, 0, 12, 0);
     c.due("read(1), no room", x.read(1), 0);
+    ThriftLock whole = new ThriftLock();
+    layAll(whole, 0, BYTES, 1, 2, 3);
+    c.due("read(0), one and nothing else", whole.read(0), 1);
+    layAll(whole, 0, BYTES, 1, 2, 3, 4, 5, 1);
+    c.due("read(0), two and nothing else", whole.read(0), 2);
     int[][] wrong = {{60, 1, 1}, {-1, 1, 1}, {1, 0, 1}, {1, 61, 1}, {1, 1, 0}, {1, 1, 4}};
     for (int[] w : wrong) {
       ThriftLock y = new ThriftLock();
@@ -1083,6 +1088,16 @@ public final class PromiseTest {
     c.due("digest(): findings and sheets are not in it", x.digest(), before);
     x.wipe();
     digestIsAsTold(x);
+    // A trial of a longer turn leaves nothing behind it.
+    ThriftLock y = withHead(60);
+    y.basin(20, 30, 1);
+    turns(y, 2);
+    digestIsAsTold(y);
+    y.head(20);
+    digestIsAsTold(y);
+    c.due("step(1)", y.step(1), 0);
+    y.head(1);
+    digestIsAsTold(y);
   }
 
   private static long h;
