@@ -1064,40 +1064,55 @@ public final class PromiseTest {
 
   private static void digest() {
     c.on("31 digest");
-    ThriftLock x = withHead(45);
-    digestIsAsTold(x);
-    for (int k = 0; k < 9; k++) {
-      x.boat(k % 3 == 0 ? 1 : 0);
+    // An object for each, as all that a digest is made of takes many of the calls that one may have.
+    for (int acts = 0; acts <= 6; acts++) {
+      digestIsAsTold(usedForDigest(acts));
     }
-    digestIsAsTold(x);
-    x.basin(12, 9, 2);
-    x.basin(20, 6, 1);
-    x.basin(3, 30, 3);
-    x.leak(1, 2);
-    digestIsAsTold(x);
-    turns(x, 3);
-    x.serve();
-    digestIsAsTold(x);
-    x.out(1);
-    x.rule(1);
-    x.serve();
-    digestIsAsTold(x);
+    ThriftLock x = usedForDigest(5);
     long before = x.digest();
     x.lose(0);
     x.sheet(1, 2, 9);
     c.due("digest(): findings and sheets are not in it", x.digest(), before);
-    x.wipe();
-    digestIsAsTold(x);
     // A trial of a longer turn leaves nothing behind it.
-    ThriftLock y = withHead(60);
-    y.basin(20, 30, 1);
-    turns(y, 2);
-    digestIsAsTold(y);
-    y.head(20);
-    digestIsAsTold(y);
-    c.due("step(1)", y.step(1), 0);
-    y.head(1);
-    digestIsAsTold(y);
+    for (int head : new int[] {60, 20, 1}) {
+      ThriftLock y = withHead(60);
+      y.basin(20, 30, 1);
+      turns(y, 2);
+      y.digest();
+      y.head(head);
+      digestIsAsTold(y);
+    }
+  }
+
+  /** The first so many of six kinds of acts. */
+  private static ThriftLock usedForDigest(int acts) {
+    ThriftLock x = withHead(45);
+    if (acts > 0) {
+      for (int k = 0; k < 9; k++) {
+        x.boat(k % 3 == 0 ? 1 : 0);
+      }
+    }
+    if (acts > 1) {
+      x.basin(12, 9, 2);
+      x.basin(20, 6, 1);
+      x.basin(3, 30, 3);
+      x.leak(1, 2);
+    }
+    if (acts > 2) {
+      turns(x, 3);
+      x.serve();
+    }
+    if (acts > 3) {
+      x.out(1);
+    }
+    if (acts > 4) {
+      x.rule(1);
+      x.serve();
+    }
+    if (acts > 5) {
+      x.wipe();
+    }
+    return x;
   }
 
   private static long h;
