@@ -363,6 +363,13 @@ public final class BasinSentencesTest {
   }
 
   private static void info() {
+    s.of("Promise 8", "BOTTOM (what = 0), ROOM (1), WIDE (2), LEAK (3), SLICES that it holds (4), LEVEL (5)", """
+        # The least and the most of each; it holds as many as it has room for.
+        head(60); basin(0, 1, 1); basin(59, 60, 3); leak(1, 3)
+        turn() = 60 59
+        info(0, 0..5) = 0 1 1 0 1 6
+        info(1, 0..5) = 59 60 3 3 0 354
+        """);
     s.of("Promise 8", "whether it is OUT (6: 1, 0)", """
         basin(0, 1, 1) * 4
         info(0..3, 6) = 0

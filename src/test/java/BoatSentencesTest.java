@@ -173,6 +173,11 @@ public final class BoatSentencesTest {
         # Was served.
         boat(1) = 1; serve() = 1; leave(1) = NOT
         count(1) = 0
+        # Also while others wait, ahead of it and behind it, on both sides.
+        boat(0) = 2 3 4; boat(1) = 5 6 7
+        leave(3) = 2 NOT; leave(6) = 2 NOT
+        leave(0..1) = NOT; leave(8) = NOT
+        waits(0, 0..2) = 2 4 NONE; waits(1, 0..2) = 5 7 NONE
         """);
   }
 

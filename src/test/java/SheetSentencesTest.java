@@ -94,6 +94,13 @@ public final class SheetSentencesTest {
         copy(0, -1, 1, -1, -1) = INDEX
         sheet(4, 0, -1) = BAD; sheet(0, 3, -1) = BAD; sheet(0, 0, -1) = SIZE
         """);
+    s.of("Terms", "BAD -2 (a number not as told, no such thing), NULL, NOT -3 (as told), FULL -4, other FINDINGS.", """
+        head(0) = -2; info(0, 0) = -2; leave(-1) = -2
+        back() = -3; serve() = -3; leave(0) = -3
+        turn() = 30*60 -4
+        basin(0, 1, 1) = 1..4 -4
+        lose(0) = -11; sheet(0, 0, -1) = -15
+        """);
     s.of("Terms", "They change nothing (FINDINGS but count() 8).", """
         # Of each call one that is refused; what shows is held against an object without them.
         head(10); basin(0, 5, 1); basin(59, 1, 1); leak(0, 1); out(1); rule(1)
@@ -152,6 +159,13 @@ public final class SheetSentencesTest {
   }
 
   private static void lay() {
+    s.of("Promise 26", "Item i, treated as of a FORM", """
+        # It is the form that the row has, not one that would do for the number.
+        sheet(0, 2, 60)
+        lay(0, 0, 0, 1) = CAST; lay(0, 1, 0, 1) = CAST
+        lay(0, 2, 0, 1) = 1; lay(0, 2, 59, 2) = 1
+        get(0, 2, 0) = 1; get(0, 2, 1) = 0; get(0, 2, 58..59) = 0 2
+        """);
     s.of("Promise 26", "becomes v (the lowest bits that it has, with its sign): 1.", """
         sheet(0, 0, 1)
         lay(0, 0, 0, 127) = 1; get(0, 0, 0) = 127
@@ -271,6 +285,11 @@ public final class SheetSentencesTest {
         # Also when none would come, and ahead of what has no such item.
         copy(1, 0, 0, 0, 0) = NULL; copy(0, 0, 1, 0, 0) = NULL
         copy(1, -1, 0, -1, -1) = NULL; copy(0, -1, 1, -1, -1) = NULL; copy(0, 9, 1, 9, 9) = NULL
+        # Whatever form the other has, and whatever form the lost one had.
+        sheet(1, 1, 2); sheet(2, 2, 2)
+        copy(1, 0, 3, 0, 1) = NULL; copy(3, 0, 2, 0, 1) = NULL
+        lose(1); lose(2)
+        copy(0, 0, 1, 0, 1) = NULL; copy(2, 0, 0, 0, 1) = NULL; copy(1, 0, 2, 0, 0) = NULL
         """);
     s.of("Promise 28", "STORE", """
         sheet(0, 0, 2); sheet(1, 1, 2); sheet(2, 2, 2)

@@ -187,6 +187,13 @@ public final class TrialSentencesTest {
         head(1)
         needless(0..1) = 0 0
         """);
+    s.of("Promise 23", "which (what = 0), what is DRAWN then (1)", """
+        # The most that ten turns can draw, and the last basin that there can be.
+        head(60); basin(59, 1, 1) * 4
+        needless(0..1) = 0 300
+        out(0..2) = 1 3 7
+        needless(0..1) = 3 300
+        """);
     s.of("Promise 23", "NONE: none is in use", """
         needless(0..1) = NONE
         basin(0, 1, 1) * 4

@@ -294,6 +294,13 @@ public final class TurnSentencesTest {
         turn() = 30*3
         ledger(0..2, 1) = 1 0 1
         """);
+    s.of("Promise 17", "SLICES to or from BASINS (2), LOST or DRAWN (3), LEAKED behind it (4)", """
+        # None and all of them: drawn; five kept, of which three leaked; both that are left come back.
+        head(20); basin(10, 5, 1); leak(0, 3)
+        turn() = 20 15; ledger(0, 2..4) = 0 20 0; ledger(1, 2..4) = 5 15 3
+        leak(0, 0); head(2)
+        turn() = 0; ledger(2, 2..4) = 2 0 0
+        """);
     s.of("Promise 17", "to or from BASIN 0 to 3 (5 to 8)", """
         basin(20, 1, 1); basin(15, 2, 1); basin(10, 3, 1); basin(5, 4, 1)
         turn() = 30 20 20
