@@ -5,7 +5,9 @@ import java.lang.reflect.Method;
 import java.lang.reflect.Modifier;
 import java.nio.file.Files;
 import java.nio.file.Path;
+import java.util.HashMap;
 import java.util.HashSet;
+import java.util.Map;
 import java.util.Set;
 import java.util.TreeSet;
 import java.util.regex.Matcher;
@@ -14,24 +16,20 @@ import java.util.regex.Pattern;
 /** The face of the class, and those rules of LANGUAGE.md that can be seen without running it. */
 public final class LanguageTest {
   private static final Path SOURCE = Path.of("src/main/java/ThriftLock.java");
-  private static final String[] FACE = {
-      "int head(int)", "int basin(int,int,int)", "int back()", "int out(int)", "int leak(int,int)", "int read(int)",
-      "int info(int,int)", "int chamber(int)", "int boat(int)", "int leave(int)", "int waits(int,int)",
-      "int rule(int)", "int serve()", "int next(int)", "int turn()", "int ledger(int,int)", "int wipe()",
-      "int total(int)", "int step(int)", "int ahead(int)", "int better(int,int)", "int needless(int)",
-      "int sheet(int,int,int)", "int lose(int)", "int lay(int,int,int,int)", "int get(int,int,int)",
-      "int copy(int,int,int,int,int)", "int write(int)", "int count(int)", "long digest()"};
   private static final String[] OUTSIDE = {
       "\\bthrow\\b", "\\bthrows\\b", "\\btry\\b", "\\bcatch\\b", "\\bfinally\\b", "\\bsynchronized\\b",
       "\\bassert\\b", "\\bnative\\b", "\\bvolatile\\b", "\\btransient\\b", "->", "::", "\\w+Exact\\b",
       "\\bThread\\b", "\\bRandom\\b", "\\bcurrentTimeMillis\\b", "\\bnanoTime\\b", "\\bhashCode\\b",
       "\\bpackage\\b", "\\bprotected\\b", "\\bMIN_VALUE\\b", "\\bMAX_VALUE\\b", "\\bObject\\b"};
+  private static final int MOST_LINES = 60, MOST_DEPTH = 8;
   private static final Check c = new Check();
 
-  public static void main(String[] args) throws IOException {
+  public static void main(String[] args) throws IOException, IllegalAccessException {
     face();
     insides();
-    source(Files.readString(SOURCE));
+    String text = Files.readString(SOURCE);
+    source(text);
+    methods(text);
     c.finish();
   }
 
@@ -47,7 +45,7 @@ public final class LanguageTest {
     return s.append(')').toString();
   }
 
-  private static void face() {
+  private static void face() throws IllegalAccessException {
     c.on("rule 1, the face");
     Set<String> shown = new TreeSet<>();
     Set<String> shownNames = new HashSet<>();
@@ -58,15 +56,12 @@ public final class LanguageTest {
         shownNames.add(m.getName());
       }
     }
-    holds("the methods are those of the document: " + shown, shown.equals(new TreeSet<>(Set.of(FACE))));
-    Set<String> constants = new TreeSet<>();
-    for (Field f : ThriftLock.class.getDeclaredFields()) {
-      if (!Modifier.isPrivate(f.getModifiers())) {
-        holds(f + " is a public constant", f.getModifiers() == (Modifier.PUBLIC | Modifier.STATIC | Modifier.FINAL));
-        constants.add(f.getName());
-      }
-    }
-    holds("the constants: " + constants, constants.equals(Set.of("NONE", "BAD", "NOT", "FULL")));
+    Document document = new Document();
+    holds("the document has thirty calls", document.calls().size() == 30);
+    holds("the methods are those of the document: " + shown, shown.equals(withoutNames(document.calls())));
+    Set<String> constants = constants();
+    holds("the constants are those of the document: " + constants,
+        constants.size() == 4 && constants.equals(document.constants()));
     Constructor<?>[] made = ThriftLock.class.getDeclaredConstructors();
     holds("one constructor", made.length == 1 && Modifier.isPublic(made[0].getModifiers())
         && made[0].getParameterCount() == 0);
@@ -75,6 +70,26 @@ public final class LanguageTest {
     for (Class<?> inside : ThriftLock.class.getDeclaredClasses()) {
       noNameTwice(inside, shownNames);
     }
+  }
+
+  private static Set<String> constants() throws IllegalAccessException {
+    Set<String> shown = new TreeSet<>();
+    for (Field f : ThriftLock.class.getDeclaredFields()) {
+      if (!Modifier.isPrivate(f.getModifiers())) {
+        holds(f + " is a public constant", f.getModifiers() == (Modifier.PUBLIC | Modifier.STATIC | Modifier.FINAL));
+        holds(f + " is an int", f.getType() == int.class);
+        shown.add(f.getName() + " = " + f.get(null));
+      }
+    }
+    return shown;
+  }
+
+  private static Set<String> withoutNames(Set<String> calls) {
+    Set<String> signatures = new TreeSet<>();
+    for (String call : calls) {
+      signatures.add(call.replaceAll("int \\w+([,)])", "int$1").replace(", ", ","));
+    }
+    return signatures;
   }
 
   private static void noNameTwice(Class<?> where, Set<String> shownNames) {
@@ -134,5 +149,48 @@ public final class LanguageTest {
     while (divisors.find()) {
       holds("divided by a number that stands there: " + divisors.group(), divisors.group(1).matches("[1-9]\\d*"));
     }
+  }
+
+  private static void methods(String text) {
+    c.on("rules 8, 11, the methods");
+    // A method's last line is the first brace that stands as far in as its first line does.
+    Matcher m = Pattern.compile("(?m)^( +)(?:public |private |static )*\\w+ (\\w+)\\([^)]*\\) \\{\n([\\s\\S]*?)^\\1\\}$")
+        .matcher(text);
+    Map<String, String> bodies = new HashMap<>();
+    while (m.find()) {
+      holds(m.group(2) + " is short", m.group(3).lines().count() <= MOST_LINES);
+      holds(m.group(2) + " is no other method's name", bodies.put(m.group(2), m.group(3)) == null);
+    }
+    holds("all of them were found: " + bodies.size(), bodies.keySet().equals(methodNames()));
+    for (String name : bodies.keySet()) {
+      int deep = depth(name, bodies, 1);
+      holds(name + " goes " + deep + " deep", deep <= MOST_DEPTH);
+    }
+  }
+
+  private static Set<String> methodNames() {
+    // The constructor is read like a method.
+    Set<String> names = new HashSet<>(Set.of("ThriftLock"));
+    for (Method m : ThriftLock.class.getDeclaredMethods()) {
+      names.add(m.getName());
+    }
+    for (Class<?> inside : ThriftLock.class.getDeclaredClasses()) {
+      for (Method m : inside.getDeclaredMethods()) {
+        names.add(m.getName());
+      }
+    }
+    return names;
+  }
+
+  /** How many calls stand open at once below a method, itself among them; recursion would go beyond the most. */
+  private static int depth(String name, Map<String, String> bodies, int above) {
+    int deepest = above;
+    Matcher called = Pattern.compile("\\b(\\w+)\\(").matcher(bodies.get(name));
+    while (called.find() && deepest <= MOST_DEPTH) {
+      if (bodies.containsKey(called.group(1))) {
+        deepest = Math.max(deepest, depth(called.group(1), bodies, above + 1));
+      }
+    }
+    return deepest;
   }
 }

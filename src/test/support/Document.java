@@ -56,6 +56,25 @@ final class Document {
     return parts.containsKey(part) && parts.get(part).contains(plain(sentence));
   }
 
+  /** The calls of the public face as they stand there, such as "int head(int h)". */
+  Set<String> calls() {
+    return allOf("public ((?:int|long) \\w+\\([^)]*\\));");
+  }
+
+  /** The constants of the public face, such as "BAD = -2". */
+  Set<String> constants() {
+    return allOf("([A-Z]+ = -?\\d+)");
+  }
+
+  private Set<String> allOf(String pattern) {
+    Set<String> found = new TreeSet<>();
+    Matcher m = Pattern.compile(pattern).matcher(parts.getOrDefault("The public face", ""));
+    while (m.find()) {
+      found.add(m.group(1));
+    }
+    return found;
+  }
+
   String callOf(String part) {
     return parts.getOrDefault(part, "").split(" ", 2)[0];
   }
